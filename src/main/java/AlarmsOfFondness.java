@@ -25,7 +25,7 @@ public final class AlarmsOfFondness {
 
     /** What set() and told() name by these numbers. */
     private static final int DAY = 0, NUMBER = 1, DUTY = 2, TIRED = 3, MISSED = 4, LATE = 5, FOND = 6, KIND = 7;
-    private static final int[] HIGHEST = {LAST_DAY, 9, HOURS - 1, 99, 99, 9999, 9, KINDS - 1};
+    private static final int[] HIGHEST = {LAST_DAY, 9, HOURS - 1, 99, 99, 9999, 9};
     /** What else may be otherwise in thought: THE RULE, or nothing. */
     private static final int RULE = 8, AS_IT_IS = 9;
 
@@ -655,7 +655,6 @@ public final class AlarmsOfFondness {
             kind[one] = itsKind;
             number[one] = itsNumber;
             duty[one] = itsDuty;
-            // back() may have left somebody's rows in this place
             tired[one] = 0;
             missed[one] = 0;
             late[one] = 0;

@@ -9,6 +9,8 @@ public final class DaysTest {
         toldAhead();
         bounds();
         whoIsNotWoken();
+        whoIsNotWokenAnyMore();
+        growingByLateness();
         lastDay();
         run();
         runChangesNothing();
@@ -104,6 +106,34 @@ public final class DaysTest {
         due("0 at least", x.told(0, 3), 0);
         due("99 at most", x.told(0, 4), 99);
         due("not late", x.told(0, 5), 0);
+    }
+
+    /** Late on one day, not woken on the next: not late any more. */
+    private static void whoIsNotWokenAnyMore() {
+        AlarmsOfFondness x = ruledBy("sets 9; tires 0; grows -1;");
+        x.person(0, 0, 3);
+        x.person(0, 0, 4);
+        due("both were late", x.day(), 3);
+        due("neither is woken", x.day(), 0);
+        due("late", x.told(0, 5), 6);
+        due("run: nobody is late then", x.run(0, 1, 3), 0);
+        due("missed", x.told(0, 4), 1);
+    }
+
+    /** A MOTHER grows fonder of who wasn't late; a CHILD grows 1 fonder even so. */
+    private static void growingByLateness() {
+        for (int duty = 5; duty < 12; duty++) {
+            AlarmsOfFondness x = ruledBy("sets 7; tires 0; grows 3;");
+            x.person(1, 0, 23);
+            x.person(0, 0, duty);
+            x.person(3, 0, 23);
+            x.set(6, 1, 2);
+            x.set(6, 20, 5);
+            x.set(2, 0, duty);
+            x.day();
+            due("a MOTHER, duty " + duty, x.told(1, 6), duty < 9 ? 2 : 5);
+            due("a CHILD, duty " + duty, x.told(20, 6), duty < 9 ? 6 : 9);
+        }
     }
 
     private static void lastDay() {

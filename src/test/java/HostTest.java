@@ -151,6 +151,10 @@ public final class HostTest {
         due("the second", x.told(1, 7), 5);
         due("its number", x.told(1, 1), 9);
         due("its duty", x.told(1, 2), 23);
+        due("five of none", new AlarmsOfFondness().court(0, 2, 0, 5), NOTHING);
+        AlarmsOfFondness y = new AlarmsOfFondness();
+        y.sheet(0, 2, 15);
+        due("five", y.court(0, 2, 0, 5), 5);
         x.person(0, 0, 0);
         x.person(0, 0, 0);
         write(x, 0, 0, 0, 0, 1, 0, 0, 2, 0, 0, 3);

@@ -206,9 +206,11 @@ public final class PeopleTest {
             due("kind " + kind + " grows, not late", x.asks(0, 1, 2), notLate[kind]);
         }
         AlarmsOfFondness doctor = pair(DOCTOR, 0, 0, text);
-        doctor.set(0, 0, 1);
-        due("a DOCTOR in odd DAYS", doctor.asks(0, 1, 1), -5);
-        due("a DOCTOR in odd DAYS, not late", doctor.asks(0, 1, 2), -5);
+        for (int day = 0; day < 7; day++) {
+            doctor.set(0, 0, day);
+            due("a DOCTOR on day " + day, doctor.asks(0, 1, 1), day % 2 == 1 ? -5 : 0);
+            due("a DOCTOR on day " + day + ", not late", doctor.asks(0, 1, 2), day % 2 == 1 ? -5 : 0);
+        }
         int[] most = {99, 99, -99, 100, 0, 0};
         int[] least = {-99, -99, 99, -98, 0, 0};
         for (int kind = PERSON; kind <= QUEEN; kind++) {

@@ -13,7 +13,10 @@ public final class TextsTest {
         faults();
         depth();
         values();
+        mostThatWait();
         wrapping();
+        afterFaults();
+        lastByte();
         names();
         missed();
         CHECKS.end();
@@ -133,6 +136,18 @@ public final class TextsTest {
         fault("sets ^fonds;" + REST);
         fault("sets ^notfond;" + REST);
         fault("sets ^numbers;" + REST);
+        fault("sets ^bond;" + REST);
+        fault("sets ^hired;" + REST);
+        fault("sets ^hot 1;" + REST);
+        fault("sets 1 ^ar 1;" + REST);
+        fault("^jets 1;" + REST);
+        fault("sets ^fondz;" + REST);
+        fault("sets ^afond;" + REST);
+        fault("sets ^z;" + REST);
+        fault("sets fond^{;" + REST);
+        fault("sets fond^`;" + REST);
+        fault("sets 1^/;" + REST);
+        fault("sets 1^:;" + REST);
         fault("sets ^sets;" + REST);
         fault("sets ^and 1;" + REST);
         fault("sets 1 or ^or 1;" + REST);
@@ -144,6 +159,15 @@ public final class TextsTest {
         fault("sets 1 ^> 2;" + REST);
         fault("sets 1 +^\t2;" + REST);
         fault("sets 1 * ^;" + REST);
+        fault("sets 1 + ^;" + REST);
+        fault("sets 1 - ^;" + REST);
+        fault("sets 1 < ^;" + REST);
+        fault("sets 1 = ^;" + REST);
+        fault("sets 1 or ^;" + REST);
+        fault("sets 1 and ^;" + REST);
+        fault("sets not ^;" + REST);
+        fault("sets - ^;" + REST);
+        fault("sets (1 or ^);" + REST);
         fault("sets ^* 1;" + REST);
         fault("sets ^+ 1;" + REST);
         fault("sets (1^;" + REST);
@@ -213,6 +237,9 @@ public final class TextsTest {
         value("0 or 0", 0);
         value("5 and 6", 1);
         value("5 and 0", 0);
+        value("0 and 5", 0);
+        value("1 and 1", 1);
+        value("0 or 1", 1);
         value("0 and 0 or 1", 1);
         value("1 or 0 and 0", 1);
         value("(1 or 0) and 0", 0);
@@ -221,7 +248,60 @@ public final class TextsTest {
         value("0099", 99);
         value("100", 99);
         value("-100", -99);
-        value("1or 1and 1<1+1*(1or 1and 1<1+1*(1or 1and 1<1+1*(1or 1and 1<1+1*(1or 1and 1<1+1*(0 or 1 and 1<1+1*1)))))", 1);
+    }
+
+    /** At each of six levels a number waits for or, and, <, +, *; all of them matter for what comes out. */
+    private static void mostThatWait() {
+        for (int inmost = 0; inmost < 2; inmost++) {
+            StringBuilder e = new StringBuilder(String.valueOf(inmost));
+            for (int level = 0; level < 6; level++) {
+                e.insert(0, "0or 1and 0<0+1*" + (level == 0 ? "" : "(")).append(level == 0 ? "" : ")");
+            }
+            value(e.toString(), inmost);
+            value(e.toString().replace("0or", "7or"), 1);
+            value(e.toString().replace("1and", "0and"), 0);
+            value(e.toString().replace("0<0+", "0<1+"), 1);
+            value(e.toString().replace("0<0+", "1<1+"), inmost);
+            value(e.toString().replace("0+1*", "0+0*"), 0);
+        }
+    }
+
+    private static void afterFaults() {
+        AlarmsOfFondness x = new AlarmsOfFondness();
+        x.person(0, 0, 0);
+        x.person(0, 0, 0);
+        for (int i = 0; i < 5; i++) {
+            String wrongAtEnd = "sets 1+2+3+4+5+6+7+8+9+1+2+3+4+5+6+7+8+9; tires 1<2+3+4 or 5; grows 1 2";
+            due("a FAULT", Checks.textOf(x, wrongAtEnd), -100 - (wrongAtEnd.length() - 1));
+        }
+        due("a text behind FAULTS", Checks.textOf(x, "sets 4 + 5; tires 3 - 1; grows 2 * 4;"), 1);
+        x.force(1);
+        due("sets", x.asks(0, 1, 0), 9);
+        due("tires", x.woken(0, 0), 2);
+        due("grows", x.asks(0, 1, 1), 8);
+        due("TEXT 0 is as it was", x.force(0), 1);
+        due("sets", x.asks(0, 1, 0), 7);
+    }
+
+    /** Words and numbers that end with the last of 160 bytes. */
+    private static void lastByte() {
+        String begin = "sets 1; tires 2; grows 3;";
+        String[] ends = {"day", "x", "7", "12345", "(", "A"};
+        for (String end : ends) {
+            AlarmsOfFondness x = new AlarmsOfFondness();
+            Checks.feedAll(x, begin);
+            while (x.count(4) < 160 - end.length()) {
+                x.feed(' ');
+            }
+            Checks.feedAll(x, end);
+            due("160 bytes", x.count(4), 160);
+            due("a FAULT at the last token", x.text(), -100 - (160 - end.length()));
+        }
+        AlarmsOfFondness x = new AlarmsOfFondness();
+        for (int i = 0; i < 160; i++) {
+            x.feed(';');
+        }
+        due("160 tokens", x.text(), -100);
     }
 
     private static void wrapping() {
@@ -252,6 +332,7 @@ public final class TextsTest {
             x.force(i + 1);
             due(names[i] + " by sets", x.asks(0, 1, 0), Math.min(23, ofOneAndOther[i]));
             due(names[i] + " by grows", x.asks(0, 1, 1), ofOneAndOther[i]);
+            due(names[i] + " by grows, not late", x.asks(0, 1, 2), ofOneAndOther[i]);
             due(names[i] + " by tires", x.woken(0, 0), ofOneAlone[i]);
         }
     }

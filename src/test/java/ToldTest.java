@@ -298,6 +298,8 @@ public final class ToldTest {
             due("k " + k, above * 12, enough * below);
             CHECKS.holds("in lowest terms", java.math.BigInteger.valueOf(above).gcd(java.math.BigInteger.valueOf(below)).intValue() == 1);
         }
+        due("one of one", x.chance(7, 1, 0, 0), 1);
+        due("one of one", x.chance(7, 1, 0, 1), 1);
         due("all of 20", x.chance(7, 20, 0, 0), 1);
         due("all of 20", x.chance(7, 20, 0, 1), 1);
         due("none", x.chance(7, 20, 99, 0), 0);
