@@ -524,6 +524,18 @@ public final class EdgesOfCallsTest {
         x.cell(2, 1, NONE);
         due("NONE by hand", x.tells(2, 0, 0, 0), NONE);
         due("NONE by film", x.tells(3, 0, 0, 0), NONE);
+        AlarmsOfFondness onward = persons(2);
+        Checks.textOf(onward, "sets day; tires 0; grows 0;");
+        onward.force(1);
+        onward.set(0, 0, 3);
+        onward.film(0, 0, 20);
+        onward.sheet(1, 0, 20);
+        for (int i = 0; i < 20; i++) {
+            onward.cell(1, i, 3 + i);
+        }
+        due("by hand", onward.tells(1, 0, 0, 0), NONE);
+        due("by film", onward.tells(0, 0, 0, 0), NONE);
+        due("DAY stays", onward.count(2), 3);
         due("of nobody", new AlarmsOfFondness().film(0, 0, 0), BAD);
     }
 

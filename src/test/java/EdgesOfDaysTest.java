@@ -170,6 +170,15 @@ public final class EdgesOfDaysTest {
             due("that one isn't the fonder", x.told(2, 6), Math.max(0, Math.min(9, 4 + e[1])));
             due("who is no SETTER isn't", x.told(10, 6), 0);
         }
+        for (int duty = 0; duty < 24; duty++) {
+            AlarmsOfFondness mother = new AlarmsOfFondness();
+            mother.person(1, 0, 0);
+            mother.person(0, 0, duty);
+            Checks.textOf(mother, "sets 9; tires 0; grows 3;");
+            mother.force(1);
+            mother.day();
+            due("a MOTHER of who wakes at 11, duty " + duty, mother.told(1, 6), duty < 11 ? 1 : 4);
+        }
         AlarmsOfFondness child = new AlarmsOfFondness();
         child.person(3, 0, 0);
         child.person(0, 0, 23);
@@ -356,6 +365,10 @@ public final class EdgesOfDaysTest {
         AlarmsOfFondness full = persons(2, "sets 23; tires 0; grows 0;");
         full.set(5, 0, 9999);
         full.set(5, 1, 9999);
+        AlarmsOfFondness noMore = persons(2, "sets tired; tires -99 * (23 < duty); grows 0;");
+        noMore.set(3, 0, 23);
+        due("24 is no DUTY", noMore.duty(0, 2, 0), 0);
+        due("24 is no DUTY", noMore.duty(0, 2, 1), 46);
         due("all alike at the bound", full.duty(0, 20, 0), 0);
         due("how much", full.duty(0, 20, 1), 19998);
         AlarmsOfFondness alone = persons(1, FULLY_0);
@@ -548,12 +561,38 @@ public final class EdgesOfDaysTest {
         x.set(4, 0, 80);
         due("99 at most", x.drawn(0, 40), 99);
         due("in thought", x.told(0, 4), 80);
+        for (int seed = -50; seed < 50; seed++) {
+            for (int n = 0; n <= 40; n += 10) {
+                due("five, SEED " + seed, persons(5, FULLY_0).drawn(seed, n), missedOfFive(seed, n));
+            }
+        }
         says("MISSED of all, together, then.");
         due("nobody", new AlarmsOfFondness().drawn(5, 40), 0);
         AlarmsOfFondness five = persons(5, FULLY_0);
         nobodyIsFond(five);
         five.set(4, 2, 3);
         due("five", five.drawn(0, 7), 38);
+    }
+
+    /** Five who are all fond at first, and by whose days fondness doesn't grow. */
+    private static int missedOfFive(int seed, int n) {
+        boolean[] quarrel = new boolean[64];
+        int last = seed;
+        int missed = 0;
+        for (int i = 0; i < n; i++) {
+            last = last * 1103515245 + 12345;
+            int who = (last >>> 9) % 8;
+            last = last * 1103515245 + 12345;
+            quarrel[8 * who + (last >>> 9) % 8] = true;
+            for (int one = 0; one < 5; one++) {
+                boolean woken = false;
+                for (int other = 0; other < 5; other++) {
+                    woken |= other != one && !quarrel[8 * other + one];
+                }
+                missed += woken ? 0 : 1;
+            }
+        }
+        return missed;
     }
 
     private static void inSeeds() {
@@ -628,6 +667,11 @@ public final class EdgesOfDaysTest {
         x.force(0);
         for (int i = 2; i < 5; i++) {
             due("comes", x.person(1, 1, 1), i);
+            for (int what = 3; what < 6; what++) {
+                x.set(what, i, 77);
+            }
+            x.set(6, 10 * i, 5);
+            x.set(6, i, 0);
         }
         due("back", x.back(), 2);
         for (int what = 0; what < 7; what++) {
@@ -638,6 +682,11 @@ public final class EdgesOfDaysTest {
             due("gone", x.told(i, 7), -1000);
         }
         due("comes again", x.person(2, 1, 1), 2);
+        for (int what = 3; what < 6; what++) {
+            due("with nothing of who went: " + what, x.told(2, what), 0);
+        }
+        due("fond of all", x.told(20, 6) + x.told(21, 6), 2);
+        due("and by all", x.told(2, 6) + x.told(12, 6), 2);
         AlarmsOfFondness empty = new AlarmsOfFondness();
         due("of nobody", empty.image(), 0);
         for (int i = 0; i < 5; i++) {

@@ -73,6 +73,9 @@ public final class EdgesOfTextsTest {
                 good("sets(" + word + ")*9" + "-" + word + ";" + REST);
             }
             fault("sets ^" + word + "a;" + REST);
+            fault("sets ^" + word + "z;" + REST);
+            fault("sets ^b" + word.substring(1) + ";" + REST);
+            fault("sets ^" + word.substring(0, word.length() - 1) + "b;" + REST);
             fault("sets ^z" + word + ";" + REST);
             fault("sets ^" + word.substring(1) + ";" + REST);
             fault("sets ^" + word.substring(0, word.length() - 1) + ";" + REST);
@@ -87,6 +90,12 @@ public final class EdgesOfTextsTest {
         fault("sets ^z;" + REST);
         fault("^aaaaaaaaaaaaaaaaaaaaaaaaaaaaaaaaaaaaaaaaaaaaaaa");
         fault(WHOLE + "^z");
+        StringBuilder last = new StringBuilder(WHOLE);
+        while (last.length() < 159) {
+            last.append(' ');
+        }
+        fault(last + "^z");
+        fault(last.substring(0, 157) + "^day");
     }
 
     private static void numbers() {
@@ -165,6 +174,17 @@ public final class EdgesOfTextsTest {
             x.feed(i < 4 ? "sets".charAt(i) : ' ');
         }
         due("of 160 bytes", x.text(), -100 - 160);
+        StringBuilder most = new StringBuilder("sets 1");
+        while (most.length() < 158) {
+            most.append("+1");
+        }
+        due("of 158 bytes", read(most.toString()), -258);
+        due("of 160 bytes", read(most + "*1"), -260);
+        StringBuilder first = new StringBuilder();
+        while (first.length() < 160) {
+            first.append(';');
+        }
+        due("of 160 TOKENS the first", read(first.toString()), -100);
     }
 
     private static void wrongTokens() {
@@ -180,7 +200,9 @@ public final class EdgesOfTextsTest {
         fault("sets 1;^; tires 1; grows 1;");
         fault("sets ^; tires 1; grows 1;");
         says("sets, tires, grows, or, and, not are KEYS");
+        fault("sets ^sets;" + REST);
         fault("sets ^tires;" + REST);
+        fault("sets ^grows;" + REST);
         fault("sets ^or;" + REST);
         fault("sets ^and;" + REST);
         fault("sets not ^;" + REST);
@@ -199,6 +221,12 @@ public final class EdgesOfTextsTest {
         fault("sets 1 and ^or 1;" + REST);
         says("SUM: TERM { + or - TERM }. TERM: ONE { * ONE }. ONE: a NUMBER, a NAME, - ONE, ( E ).");
         good("sets 1 - -1 + -fond * -(1 or 2);" + REST);
+        String[] joins = {"+", "-", "*", "<", "=", "or", "and"};
+        for (String join : joins) {
+            fault("sets 1 " + join + " ^;" + REST);
+            fault("sets (1 " + join + " ^);" + REST);
+            fault("sets 1; tires 1; grows 1 " + join + " ^");
+        }
         fault("sets 1 + ^+ 1;" + REST);
         fault("sets 1 * ^* 1;" + REST);
         fault("sets - ^+ 1;" + REST);
@@ -234,9 +262,22 @@ public final class EdgesOfTextsTest {
                 good(ahead + "1 < 1" + behind + ";" + REST);
             }
         }
+        deepest();
         good("sets 1; tires (((((1))))); grows -----1;");
         fault("sets 1; tires (((((^(1)))))); grows 1;");
         fault("sets 1; tires 1; grows -----^-1;");
+    }
+
+    /** Five are open, and at each level something waits for what is within. */
+    private static void deepest() {
+        for (int inmost = 0; inmost < 2; inmost++) {
+            String e = "0or 1and 0<0+1*" + inmost;
+            for (int level = 0; level < 5; level++) {
+                e = "0or 1and 0<0+1*(" + e + ")";
+            }
+            value(e, inmost);
+            value(e.replace("1and", "0and"), 0);
+        }
     }
 
     private static void openEnds() {
