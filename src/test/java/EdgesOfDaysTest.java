@@ -18,6 +18,7 @@ public final class EdgesOfDaysTest {
         round();
         othersOfLike();
         othersAtLeastTwo();
+        othersLeast();
         dutyOf();
         fonder();
         toldLength();
@@ -345,6 +346,50 @@ public final class EdgesOfDaysTest {
         due("to 6", x.others(1), 1);
     }
 
+    /** All orders of five are gone through here; the class's own hours are asked. */
+    private static void othersLeast() {
+        says("that by which LATE BY, together, is least now");
+        for (int round = 0; round < 60; round++) {
+            AlarmsOfFondness x = new AlarmsOfFondness();
+            int many = 2 + round % 4;
+            for (int i = 0; i < many; i++) {
+                x.person((round + i * 5) % 6, (round * 3 + i) % 10, (round * 7 + i * 11) % 24);
+            }
+            for (int of = 0; of < 45; of++) {
+                x.set(6, of, (of * (round + 1) + of / 7) % 10);
+            }
+            x.set(0, 0, round);
+            int[] best = {Integer.MAX_VALUE, NONE};
+            leastOf(x, many, new int[many], 0, best);
+            due("round " + round, x.others(0), best[1]);
+            due("round " + round + ", how much", x.others(1), best[0]);
+        }
+    }
+
+    private static void leastOf(AlarmsOfFondness x, int many, int[] whose, int at, int[] best) {
+        if (at < many) {
+            for (whose[at] = 0; whose[at] < many; whose[at]++) {
+                leastOf(x, many, whose, at + 1, best);
+            }
+            return;
+        }
+        int late = 0;
+        int digits = 0;
+        int used = 0;
+        for (int one = 0; one < many; one++) {
+            if (whose[one] == one) {
+                return;
+            }
+            late += Math.max(0, x.asks(one, whose[one], 0) - x.told(whose[one], 2));
+            digits = digits * 10 + whose[one] + 1;
+            used |= 1 << whose[one];
+        }
+        if (used == (1 << many) - 1 && late < best[0]) {
+            best[0] = late;
+            best[1] = digits;
+        }
+    }
+
     private static void dutyOf() {
         says("the DUTY (0 .. 23) by which LATE of all, together, would be least behind n DAYS (0 .. 20); "
                 + "of like ones the first; how much.");
@@ -485,6 +530,11 @@ public final class EdgesOfDaysTest {
         due("of TEXTS the last", last.tells(0, 0, 1, 6), 0);
         last.set(3, 1, 99);
         due("of TEXTS the last", last.tells(0, 0, 1, 6), 2);
+        AlarmsOfFondness both = persons(2, "sets tired; tires 0; grows tired;");
+        both.sheet(0, 0, 1);
+        both.cell(0, 0, 12);
+        due("TIRED 12 alone", both.tells(0, 0, 1, 3), 1);
+        due("the least", both.tells(0, 0, 1, 4), 12);
         AlarmsOfFondness kinds = persons(2, "sets 4; tires 0; grows 0;");
         kinds.set(0, 0, 1);
         kinds.set(1, 1, 9);

@@ -20,6 +20,7 @@ public final class EdgesOfTextsTest {
         open();
         openEnds();
         sixTexts();
+        behindFaults();
         textZero();
         wrapping();
         trueAndFalse();
@@ -96,6 +97,21 @@ public final class EdgesOfTextsTest {
         }
         fault(last + "^z");
         fault(last.substring(0, 157) + "^day");
+        insteadOfEachToken("fon");
+    }
+
+    /** What is no TOKEN can't stand where any TOKEN can. */
+    private static void insteadOfEachToken(String none) {
+        String[] tokens = {"sets", "1", "or", "2", "and", "not", "3", "<", "(", "4", ")", ";", "tires", "5", "+", "6", ";",
+            "grows", "-", "7", "*", "day", ";"};
+        for (int instead = 0; instead < tokens.length; instead++) {
+            StringBuilder text = new StringBuilder();
+            for (int i = 0; i < tokens.length; i++) {
+                text.append(i == instead ? "^" + none : tokens[i]).append(' ');
+            }
+            fault(text.toString());
+        }
+        good(String.join(" ", tokens));
     }
 
     private static void numbers() {
@@ -110,6 +126,7 @@ public final class EdgesOfTextsTest {
         fault("sets 1 + ^123456789012345678901234567890;" + REST);
         fault(WHOLE + "^12345");
         fault("^12345");
+        insteadOfEachToken("12345");
     }
 
     /** Each byte behind a whole TEXT. */
@@ -145,6 +162,9 @@ public final class EdgesOfTextsTest {
             int fault = "sets ".length() + (blank || b == '-' || b == '(' ? 1 : 0);
             due("byte " + b + " as ONE", read("sets " + (char) b + ";" + REST), one ? 1 : -100 - fault);
         }
+        insteadOfEachToken("?");
+        insteadOfEachToken("F");
+        insteadOfEachToken(">");
     }
 
     private static void blanks() {
@@ -320,6 +340,28 @@ public final class EdgesOfTextsTest {
             due("force(" + i + ")", x.force(i), was);
             due("it tells", x.asks(0, 1, 0), i == 0 ? 7 : i);
             was = i;
+        }
+    }
+
+    private static void behindFaults() {
+        says("THE TAPE, which is empty then (by a FAULT, too), is a TEXT");
+        StringBuilder sum = new StringBuilder("sets 1");
+        while (sum.length() < 158) {
+            sum.append("+1");
+        }
+        AlarmsOfFondness x = new AlarmsOfFondness();
+        x.person(0, 0, 0);
+        x.person(0, 0, 0);
+        for (int number = 1; number < 6; number++) {
+            due("a FAULT behind many TOKENS", Checks.textOf(x, sum + "?"), -100 - sum.length());
+            due("a FAULT in grows", Checks.textOf(x, "sets 9; tires 9; grows 9"), -124);
+            String twelve = "1+1+1+1+1+1+1+1+1+1+1+" + number;
+            String text = "sets " + twelve + ";tires " + twelve + ";grows " + twelve + ";";
+            due("a TEXT behind it", Checks.textOf(x, text), number);
+            x.force(number);
+            due("it SETS with nothing of those", x.asks(0, 1, 0), 11 + number);
+            due("it TIRES", x.woken(0, 0), 11 + number);
+            due("it GROWS", x.asks(0, 1, 2), 11 + number);
         }
     }
 
