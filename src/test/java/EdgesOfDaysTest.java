@@ -410,12 +410,12 @@ public final class EdgesOfDaysTest {
         AlarmsOfFondness full = persons(2, "sets 23; tires 0; grows 0;");
         full.set(5, 0, 9999);
         full.set(5, 1, 9999);
+        due("all alike at the bound", full.duty(0, 20, 0), 0);
+        due("how much", full.duty(0, 20, 1), 19998);
         AlarmsOfFondness noMore = persons(2, "sets tired; tires -99 * (23 < duty); grows 0;");
         noMore.set(3, 0, 23);
         due("24 is no DUTY", noMore.duty(0, 2, 0), 0);
         due("24 is no DUTY", noMore.duty(0, 2, 1), 46);
-        due("all alike at the bound", full.duty(0, 20, 0), 0);
-        due("how much", full.duty(0, 20, 1), 19998);
         AlarmsOfFondness alone = persons(1, FULLY_0);
         due("not woken", alone.duty(0, 20, 0), 0);
         due("not woken", alone.duty(0, 20, 1), 0);
@@ -446,6 +446,26 @@ public final class EdgesOfDaysTest {
         due("fondness stays", x.told(41, 6), 1);
         due("alone", persons(1, FULLY_0).fonder(0, 20, 0), NONE);
         due("alone", persons(1, FULLY_0).fonder(0, 20, 1), 0);
+        nineFond();
+    }
+
+    /** Neither less nor more than 9 FOND. */
+    private static void nineFond() {
+        AlarmsOfFondness x = persons(3, "sets 20 - fond; tires 0; grows 0;");
+        x.set(2, 0, 23);
+        x.set(2, 2, 23);
+        due("being 9 FOND, one wakes that other one at 11", x.fonder(2, 1, 1), 11);
+        due("of 1", x.fonder(2, 1, 0), 1);
+        int[] ofZero = {7, 8, 9};
+        for (int fond : ofZero) {
+            AlarmsOfFondness queen = new AlarmsOfFondness();
+            queen.person(0, 0, 23);
+            queen.person(0, 0, 0);
+            queen.person(5, 0, 23);
+            queen.set(6, 1, fond);
+            due("9 is more than " + fond, queen.fonder(2, 3, 0), fond < 9 ? 1 : NONE);
+            due("how much", queen.fonder(2, 3, 1), fond < 9 ? 0 : 45);
+        }
     }
 
     private static void toldLength() {
@@ -504,7 +524,6 @@ public final class EdgesOfDaysTest {
         x.cell(0, 0, 23);
         due("TIRED 12 .. 99 of 0", x.tells(0, 1, 0, 3), 88);
         due("the least", x.tells(0, 1, 0, 4), 12);
-        Checks.textOf(x, FULLY_0);
         bitsAtTheirEnds();
     }
 
@@ -535,6 +554,7 @@ public final class EdgesOfDaysTest {
         both.cell(0, 0, 12);
         due("TIRED 12 alone", both.tells(0, 0, 1, 3), 1);
         due("the least", both.tells(0, 0, 1, 4), 12);
+        tiredByFondness();
         AlarmsOfFondness kinds = persons(2, "sets 4; tires 0; grows 0;");
         kinds.set(0, 0, 1);
         kinds.set(1, 1, 9);
@@ -543,6 +563,20 @@ public final class EdgesOfDaysTest {
         for (int hour = 0; hour < byHour.length; hour++) {
             kinds.cell(0, 0, hour);
             due("KINDS by " + hour, kinds.tells(0, 0, 1, 1), byHour[hour]);
+        }
+    }
+
+    /** How TIRED one is now is seen in a later hour, by GROWS alone. */
+    private static void tiredByFondness() {
+        AlarmsOfFondness x = persons(3, "sets 5 + fond; tires 0; grows tired;");
+        x.sheet(0, 1, 2);
+        x.cell(0, 0, 6);
+        int[] many = {0, 1, 1, 1, 1, 1, 1, 1, 1, 92, 0};
+        for (int i = 0; i < many.length; i++) {
+            x.cell(0, 1, 5 + i);
+            due("6, then " + (5 + i), x.tells(0, 1, 0, 3), many[i]);
+            due("the least", x.tells(0, 1, 0, 4), many[i] == 0 ? NONE : i - 1);
+            due("of who sets another's clock", x.tells(0, 1, 2, 3), i == 1 ? 100 : 0);
         }
     }
 

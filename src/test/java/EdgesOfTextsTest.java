@@ -276,9 +276,8 @@ public final class EdgesOfTextsTest {
             fault(ahead + "^(1)" + behind + ";" + REST);
             fault(ahead + "^-1" + behind + ";" + REST);
             fault(ahead + "1 + ^" + "not 1" + behind + ";" + REST);
-            boolean notMayStand = way[4] != 2;
             fault(ahead + "^not 1" + behind + ";" + REST);
-            if (notMayStand) {
+            if (way[4] != 2) {
                 good(ahead + "1 < 1" + behind + ";" + REST);
             }
         }
