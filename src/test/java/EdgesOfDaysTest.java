@@ -8,6 +8,7 @@ public final class EdgesOfDaysTest {
         setter();
         wakesAndLateBy();
         toldAhead();
+        daysOfAllKinds();
         tiredByADay();
         lateByADay();
         fonderByADay();
@@ -126,6 +127,80 @@ public final class EdgesOfDaysTest {
         y.set(6, 1, 1);
         y.day();
         due("1 is woken, 0 and 2 missed it", y.told(0, 4) + 10 * y.told(1, 4) + 100 * y.told(2, 4), 101);
+    }
+
+    /** What a DAY makes of five of unlike KINDS is what the calls tell ahead of it. */
+    private static void daysOfAllKinds() {
+        says("of all, told ahead, the SETTER, when one WAKES, LATE BY, TIRES, what it GROWS");
+        String[] texts = {"sets duty + fond - 3; tires duty - 9; grows missed - fond;",
+            "sets tired + number; tires missed - number; grows duty - 12;",
+            "sets day * 5 - duty; tires tired - 60; grows 1 - (duty < 12) * 2;",
+            "sets missed + number; tires number * 9; grows tired - number;"};
+        for (int i = 0; i < 48; i++) {
+            AlarmsOfFondness x = new AlarmsOfFondness();
+            for (int one = 0; one < 5; one++) {
+                x.person((i + one * 5) % 6, (i * 3 + one * 7) % 10, (i * 5 + one * 11) % 24);
+                x.set(3, one, (i * 7 + one * 29) % 100);
+                x.set(4, one, (i * 13 + one * 17) % 100);
+            }
+            for (int of = 1; of < 45; of++) {
+                x.set(6, of, (of * (i + 3) + of / 7) % (i % 4 == 0 ? 3 : 10));
+            }
+            Checks.textOf(x, texts[i / 6 % 4]);
+            x.force(1);
+            int[] inThought = behindDays(x, 4);
+            x.film(0, i % 5, 5);
+            for (int day = 0; day < 4; day++) {
+                aDayAsTold(x, "round " + i + ", day " + day + ", ");
+            }
+            int[] truly = behindDays(x, 0);
+            for (int k = 0; k < truly.length; k++) {
+                due("round " + i + ", in thought: what " + k % 5 + " of " + k / 5, inThought[k], truly[k]);
+            }
+            x.sheet(1, 0, 1);
+            x.copy(0, 4, 1, 0, 1);
+            due("round " + i + ", the fifth of the film", x.tells(1, i % 5, 0, 0), NONE);
+        }
+    }
+
+    private static int[] behindDays(AlarmsOfFondness x, int n) {
+        int[] all = new int[25];
+        for (int k = 0; k < 25; k++) {
+            all[k] = x.run(k / 5, n, k % 5);
+        }
+        return all;
+    }
+
+    private static void aDayAsTold(AlarmsOfFondness x, String when) {
+        int[][] want = new int[5][3];
+        int[] fond = new int[45];
+        int late = 0;
+        for (int of = 0; of < 45; of++) {
+            fond[of] = x.told(of, 6);
+        }
+        for (int one = 0; one < 5; one++) {
+            int setter = x.told(one, 8);
+            int hour = x.told(one, 9);
+            int by = Math.max(0, hour - x.told(one, 2));
+            due(when + "LATE BY of " + one, x.told(one, 10), by);
+            late |= by > 0 ? 1 << one : 0;
+            want[one][0] = x.told(one, 3) + (setter == NONE ? -10 : x.woken(one, hour));
+            want[one][1] = x.told(one, 4) + (setter == NONE ? 1 : 0);
+            want[one][2] = x.told(one, 5) + by;
+            if (setter != NONE) {
+                int grows = x.asks(setter, one, by > 0 ? 1 : 2);
+                fond[10 * setter + one] = Math.max(0, Math.min(9, fond[10 * setter + one] + grows));
+            }
+        }
+        due(when + "who was late", x.day(), late);
+        for (int one = 0; one < 5; one++) {
+            due(when + "TIRED " + one, x.told(one, 3), Math.max(0, Math.min(99, want[one][0])));
+            due(when + "MISSED " + one, x.told(one, 4), Math.min(99, want[one][1]));
+            due(when + "LATE " + one, x.told(one, 5), want[one][2]);
+        }
+        for (int of = 0; of < 45; of++) {
+            due(when + "FOND " + of, x.told(of, 6), fond[of]);
+        }
     }
 
     private static void tiredByADay() {
@@ -302,6 +377,32 @@ public final class EdgesOfDaysTest {
         due("0, 1, 2, 3, 4, and 3 again", five.round(0), 5);
         due("3 and 4", five.round(3), 2);
         due("alone", persons(1, FULLY_0).round(0), NONE);
+        allRounds();
+    }
+
+    /** All that four can have as SETTERS, none with them. */
+    private static void allRounds() {
+        for (int way = 0; way < 256; way++) {
+            AlarmsOfFondness x = persons(4, FULLY_0);
+            nobodyIsFond(x);
+            int[] setter = new int[4];
+            for (int one = 0; one < 4; one++) {
+                int by = way >> 2 * one & 3;
+                setter[one] = by == one ? NONE : by;
+                x.set(6, 10 * by + one, 5);
+            }
+            for (int one = 0; one < 4; one++) {
+                boolean[] been = new boolean[4];
+                int now = one;
+                int steps = 0;
+                while (now != NONE && !been[now]) {
+                    been[now] = true;
+                    now = setter[now];
+                    steps++;
+                }
+                due("way " + way + " from " + one, x.round(one), now == NONE ? NONE : steps);
+            }
+        }
     }
 
     private static void othersOfLike() {
@@ -447,6 +548,31 @@ public final class EdgesOfDaysTest {
         due("alone", persons(1, FULLY_0).fonder(0, 20, 0), NONE);
         due("alone", persons(1, FULLY_0).fonder(0, 20, 1), 0);
         nineFond();
+        fonderOfEach();
+    }
+
+    /** Each one of five may be whom each other one had best be fonder of, be it by one hour alone. */
+    private static void fonderOfEach() {
+        for (int one = 0; one < 5; one++) {
+            for (int best = 0; best < 5; best++) {
+                AlarmsOfFondness x = new AlarmsOfFondness();
+                for (int i = 0; i < 5; i++) {
+                    x.person(i == one ? 5 : 0, i == one ? 6 : 0, i == best ? 6 : 23);
+                }
+                boolean two = one != best;
+                boolean already = one == 0 || one == 1 && best == 0;
+                due(one + " fonder of " + best + ", late by 1", x.fonder(one, 1, 0), two && !already ? best : NONE);
+                due("how much", x.fonder(one, 1, 1), two ? 0 : 1);
+                x.set(2, best, 5);
+                due("by 1, late by 2", x.fonder(one, 1, 0), two && !already ? best : NONE);
+                due("how much", x.fonder(one, 1, 1), two ? 1 : 2);
+                if (two) {
+                    x.set(1, one, 7);
+                    due("no less late", x.fonder(one, 1, 0), NONE);
+                    due("as so", x.fonder(one, 1, 1), 2);
+                }
+            }
+        }
     }
 
     /** Neither less nor more than 9 FOND. */
@@ -604,6 +730,24 @@ public final class EdgesOfDaysTest {
             found += s ? 1 : 0;
         }
         due("pairs", found, 64);
+        pairsByLastBits();
+    }
+
+    /** Of z and of y the last nine bits are cut, all of them 0 or 1 here. */
+    private static void pairsByLastBits() {
+        int pairs = 0;
+        for (int seed = -40000; seed < 40000; seed++) {
+            int z = seed * 1103515245 + 12345;
+            int y = z * 1103515245 + 12345;
+            int a = (z >>> 9) % 8;
+            int b = (y >>> 9) % 8;
+            boolean edge = (z + 1 & 511) < 2 || (y + 1 & 511) < 2;
+            if (edge && a < 5 && b < 5 && a != b) {
+                pairs++;
+                onePair(seed, a, b, 5);
+            }
+        }
+        due("some are drawn", pairs > 50 ? 1 : 0, 1);
     }
 
     /** Of many just two are fond, 0 of 1 and 1 of 0, or those that are drawn. */

@@ -10,6 +10,7 @@ public final class EdgesOfTextsTest {
         tape();
         words();
         numbers();
+        everyByteJustBehind();
         everyByteBehind();
         everyByteBetween();
         everyByteWithin();
@@ -18,6 +19,7 @@ public final class EdgesOfTextsTest {
         wrongTokens();
         grammar();
         open();
+        openBehindJoins();
         openEnds();
         sixTexts();
         behindFaults();
@@ -129,6 +131,29 @@ public final class EdgesOfTextsTest {
         insteadOfEachToken("12345");
     }
 
+    /** Each byte just behind a NAME, a KEY and a NUMBER, and a digit just behind that. */
+    private static void everyByteJustBehind() {
+        says("TOKENS, each as long as can be");
+        for (int b = 0; b < 256; b++) {
+            boolean letter = b >= 'a' && b <= 'z';
+            boolean digit = b >= '0' && b <= '9';
+            boolean blank = b == 32 || b == 10;
+            boolean joins = "+-*<=".indexOf(b) >= 0;
+            boolean ends = blank || b == ';';
+            boolean begins = digit || blank || b == '-';
+            justBehind("sets day", b, joins, letter ? 5 : ends ? 9 : 8);
+            justBehind("sets 99", b, joins || digit, ends ? 8 : 7);
+            justBehind("sets", b, begins, letter ? 0 : b == '(' ? 6 : 4);
+            justBehind("sets not", b, begins, letter ? 5 : b == '(' ? 10 : 8);
+            justBehind("sets 1 or", b, begins, letter ? 7 : b == '(' ? 11 : 9);
+            justBehind("sets 1 and", b, begins, letter ? 7 : b == '(' ? 12 : 10);
+        }
+    }
+
+    private static void justBehind(String ahead, int b, boolean good, int fault) {
+        due("[" + ahead + "], byte " + b + ", [1]", read(ahead + (char) b + "1;" + REST), good ? 1 : -100 - fault);
+    }
+
     /** Each byte behind a whole TEXT. */
     private static void everyByteBehind() {
         says("the place of the first byte of the first TOKEN that can't stand there");
@@ -188,6 +213,16 @@ public final class EdgesOfTextsTest {
             text.append(token).append(' ');
         }
         good(text.toString());
+        String[] last = {"12", "123", "1234", "fond", "day", "1 or", "1 and", "not", "(1", "1)", "-", "1 <", "1 ="};
+        for (String l : last) {
+            fault("sets " + (l.equals("1)") ? "(" : "") + l + "^");
+        }
+        fault("sets ^12345");
+        fault("sets ^fon");
+        fault("^set");
+        for (int letter = 'a'; letter <= 'z'; letter++) {
+            due("of 160 bytes the last: " + (char) letter, read(" ".repeat(159) + (char) letter), -259);
+        }
         AlarmsOfFondness x = new AlarmsOfFondness();
         due("an empty tape", x.text(), -100);
         for (int i = 0; i < 160; i++) {
@@ -296,6 +331,34 @@ public final class EdgesOfTextsTest {
             }
             value(e, inmost);
             value(e.replace("1and", "0and"), 0);
+        }
+    }
+
+    /** What stands ahead of a join keeps no more open, and no less, for what stands behind it. */
+    private static void openBehindJoins() {
+        says("while 5 of these are open");
+        String[] joins = {"+", "-", "*", "<", "=", "or", "and"};
+        for (String join : joins) {
+            String j = " " + join + " ";
+            good("sets (((((1" + j + "1)))));" + REST);
+            good("sets ((((1" + j + "(1)))));" + REST);
+            good("sets ((((1" + j + "-1))));" + REST);
+            good("sets ((((-1" + j + "(1)))));" + REST);
+            good("sets ((((1)" + j + "((1)))));" + REST);
+            good("sets (((((1)))))" + j + "(((((1)))));" + REST);
+            good("sets -----1" + j + "-----1;" + REST);
+            fault("sets (((((1" + j + "^(1))))));" + REST);
+            fault("sets (((((1" + j + "^-1)))));" + REST);
+            fault("sets ((((1" + j + "(^(1))))));" + REST);
+            fault("sets ((((1" + j + "-^-1))));" + REST);
+            fault("sets (((((1" + j + "1" + j.replace('<', '+').replace('=', '+') + "^(1))))));" + REST);
+        }
+        for (int i = 5; i < 7; i++) {
+            String j = " " + joins[i] + " ";
+            good("sets ((((1" + j + "not 1))));" + REST);
+            fault("sets ((((1" + j + "not ^(1)))));" + REST);
+            fault("sets (((((1" + j + "^not 1)))));" + REST);
+            fault("sets (((((1" + j + "1" + j + "^not 1)))));" + REST);
         }
     }
 
@@ -428,10 +491,13 @@ public final class EdgesOfTextsTest {
         String[] names = {"fond", "duty", "number", "day", "tired", "missed"};
         int[] byGrows = {9, 23, 8, 50, 97, 88};
         int[] byTires = {0, 22, 8, 50, 97, 99};
+        int[] byAnother = {3, 22, 6, 50, 0, 99};
+        int[] byOneself = {0, 23, 7, 50, 98, 88};
         for (int i = 0; i < 6; i++) {
             AlarmsOfFondness x = new AlarmsOfFondness();
             x.person(0, 8, 22);
             x.person(0, 7, 23);
+            x.person(0, 6, 21);
             x.set(0, 0, 50);
             x.set(3, 0, 97);
             x.set(3, 1, 98);
@@ -439,6 +505,8 @@ public final class EdgesOfTextsTest {
             x.set(4, 1, 88);
             x.set(6, 1, 9);
             x.set(6, 10, 2);
+            x.set(6, 20, 3);
+            x.set(6, 21, 4);
             String n = names[i];
             Checks.textOf(x, "sets " + n + " ; tires " + n + " ; grows " + n + " ;");
             x.force(1);
@@ -446,6 +514,10 @@ public final class EdgesOfTextsTest {
             due(n + " of tires", x.woken(0, 0), byTires[i]);
             due(n + " of grows, late", x.asks(0, 1, 1), byGrows[i]);
             due(n + " of grows", x.asks(0, 1, 2), byGrows[i]);
+            due(n + " of sets, another", x.asks(2, 0, 0), Math.min(23, byAnother[i]));
+            due(n + " of grows, another", x.asks(2, 0, 2), byAnother[i]);
+            due(n + " of tires, another", x.woken(1, 0), byOneself[i]);
+            due(n + " of grows, another, late", x.asks(2, 0, 1), byAnother[i]);
         }
     }
 
