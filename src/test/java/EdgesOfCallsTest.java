@@ -469,6 +469,32 @@ public final class EdgesOfCallsTest {
             due("as it is, " + what, x.tells(0, 0, 1, what), asItIs[what]);
         }
         due("KINDS of who is numbered by, who sets no clock of one's own", x.tells(0, 0, 0, 1), 63);
+        tellsAheadOfAll();
+    }
+
+    /** Each as the first that looks ahead; 0 is woken by 1 at 7, all others by 0 at 6 + how fond it is of them. */
+    private static void tellsAheadOfAll() {
+        for (int one = 0; one < 5; one++) {
+            for (int what = 0; what < 8; what++) {
+                AlarmsOfFondness x = persons(5);
+                for (int other = 1; other < 5; other++) {
+                    x.set(6, other, 2 * other);
+                }
+                int hour = one == 0 ? 7 : 6 + 2 * one;
+                int by = one == 0 ? 1 : 0;
+                int[] want = {NONE, 1, 1023, 100, 0, 0xFFFFFF, 1, 1 << one};
+                due("told", x.told(one, 9), hour);
+                x.sheet(2, 1, 1);
+                x.cell(2, 0, hour);
+                due(one + " woken at " + hour + ", what " + what, x.tells(2, one, by, what), want[what]);
+            }
+        }
+        due("run", persons(5).run(4, 3, 2), 21);
+        due("duty", persons(5).duty(4, 1, 0), 7);
+        due("fonder", persons(5).fonder(4, 1, 1), 35);
+        due("drawn", persons(1).drawn(1, 3), 3);
+        due("chance", persons(1).chance(1, 1, 10, 0), 1);
+        due("others", persons(5).others(1), 35);
     }
 
     /** Promise 17. */
@@ -537,6 +563,33 @@ public final class EdgesOfCallsTest {
         due("by film", onward.tells(0, 0, 0, 0), NONE);
         due("DAY stays", onward.count(2), 3);
         due("of nobody", new AlarmsOfFondness().film(0, 0, 0), BAD);
+        filmOfEach();
+    }
+
+    /** Each of five wakes at hours of one's own. */
+    private static void filmOfEach() {
+        for (int one = 0; one < 5; one++) {
+            AlarmsOfFondness x = new AlarmsOfFondness();
+            for (int i = 0; i < 5; i++) {
+                x.person(0, 0, i);
+                x.set(4, i, i);
+            }
+            Checks.textOf(x, "sets day * (1 + missed * 2) - (0 < day) * 4 * (missed = 4); tires 0; grows 0;");
+            x.force(1);
+            due("film", x.film(3, one, 3), 3);
+            int first = one == 4 ? 5 : 1 + 2 * one;
+            int second = one == 4 ? 14 : 2 + 4 * one;
+            due("hour of the second DAY", x.run(one, 1, 0), first);
+            due("hour of the third DAY", x.run(one, 2, 0), second);
+            x.sheet(0, 0, 3);
+            int[] hours = {0, first, second};
+            for (int i = 0; i < 3; i++) {
+                due("so far as it's told", x.tells(0, one, 0, 0), i == 0 ? 1 : i);
+                x.cell(0, i, hours[i]);
+            }
+            due("by hand", x.tells(0, one, 0, 0), NONE);
+            due("by film", x.tells(3, one, 0, 0), NONE);
+        }
     }
 
     /** Promise 19. */
@@ -778,6 +831,36 @@ public final class EdgesOfCallsTest {
                     }
                     due("copy", x.copy(0, i, 0, j, n), n);
                     rowIs(x, want);
+                }
+            }
+        }
+        copyFromAnother();
+    }
+
+    /** One row is 1 .. 5, the other one 11 .. 15. */
+    private static void copyFromAnother() {
+        for (int sort = 0; sort < 3; sort++) {
+            for (int to = 0; to < 2; to++) {
+                for (int i = 0; i <= 5; i++) {
+                    for (int j = 0; j <= 5; j++) {
+                        AlarmsOfFondness x = new AlarmsOfFondness();
+                        int n = Math.min(5 - Math.max(i, j), 3);
+                        x.sheet(0, sort, 5);
+                        x.sheet(3, sort, 5);
+                        int[] want = new int[5];
+                        for (int k = 0; k < 5; k++) {
+                            x.cell(0, k, 1 + k);
+                            x.cell(3, k, 11 + k);
+                            want[k] = to * 10 + 1 + k;
+                        }
+                        for (int k = 0; k < n; k++) {
+                            want[j + k] = (1 - to) * 10 + 1 + i + k;
+                        }
+                        due("copy", x.copy(to == 0 ? 3 : 0, i, to == 0 ? 0 : 3, j, n), n);
+                        due("the other row stays", x.copy(to == 0 ? 3 : 0, 0, to == 0 ? 3 : 0, 0, 5), 5);
+                        due("and this one", x.copy(to == 0 ? 0 : 3, 0, 0, 0, 5), 5);
+                        rowIs(x, want);
+                    }
                 }
             }
         }
