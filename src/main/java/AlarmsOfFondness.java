@@ -835,7 +835,7 @@ public final class AlarmsOfFondness {
             }
             least = MORE_THAN_ALL_LATE;
             best = NONE;
-            goOn(0, 0, 0, 0);
+            goOn(this, 0, 0, 0, 0);
         }
 
         int digits() {
@@ -847,18 +847,18 @@ public final class AlarmsOfFondness {
         }
 
         /** Ways come in the order of their digits, so the first of like ones is kept. */
-        private void goOn(int one, int used, int digits, int late) {
-            if (one >= many || one >= MOST_PEOPLE) {
-                if (late < least) {
-                    least = late;
-                    best = digits;
+        private static void goOn(Ways ways, int one, int used, int digits, int late) {
+            if (one >= ways.many || one >= MOST_PEOPLE) {
+                if (late < ways.least) {
+                    ways.least = late;
+                    ways.best = digits;
                 }
                 return;
             }
-            for (int other = 0; other < many; other++) {
+            for (int other = 0; other < ways.many; other++) {
                 if (other != one && (used >> other & 1) == 0) {
-                    goOn(one + 1, used | 1 << other, digits * 10 + other + 1,
-                            late + lateBy[one * MOST_PEOPLE + other]);
+                    goOn(ways, one + 1, used | 1 << other, digits * 10 + other + 1,
+                            late + ways.lateBy[one * MOST_PEOPLE + other]);
                 }
             }
         }
